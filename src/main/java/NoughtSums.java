@@ -16,7 +16,7 @@ public final class NoughtSums {
     private static final int LISTS = 3, MOST_LONGS = 30;
     private static final int MOST_TAPE = 100, LEAST_LETTER = 32, MOST_LETTER = 126;
 
-    /** 30 ROOTS spelled with x and COUNT take 143 bytes with N in front. */
+    /** 30 ROOTS spelled with x and COUNT take 142 bytes with N in front. */
     private static final int MOST_SPELLED = 160;
 
     /** Of N 12 there are 100 rows with COUNTS 0 and 1 that are NOUGHT, of each lesser N fewer. */
