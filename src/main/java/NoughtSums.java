@@ -1279,7 +1279,6 @@ public final class NoughtSums {
         /** False: it is no TEXT, and the FAULT is at place at. */
         boolean scan() {
             at = 0;
-            tellsWrong = false;
             int base = number();
             if (base < 0 || !passes(':')) {
                 return false;

@@ -114,7 +114,8 @@ public final class ModelTest {
 
     /** Calls that belong together, which single ones would seldom make. */
     private List<String[]> scene() {
-        switch (random.nextInt(6)) {
+        switch (random.nextInt(7)) {
+            case 6: return tapeOf(twoOfThirty(), "read");
             case 0: return tapeOf(text(), "read");
             case 1: return tapeOf(spoiled(text()), "read");
             case 2: return tapeOf(noughtText(), "read");
@@ -132,6 +133,9 @@ public final class ModelTest {
         scene.add(new String[] {last});
         scene.add(new String[] {"primitive"});
         scene.add(new String[] {"parts", "0"});
+        scene.add(new String[] {"take"});
+        scene.add(new String[] {"weight"});
+        scene.add(new String[] {"best"});
         return scene;
     }
 
@@ -171,6 +175,29 @@ public final class ModelTest {
         if (random.nextInt(3) == 0) items.add("" + random.nextInt(n));
         if (random.nextInt(3) == 0) items.remove(random.nextInt(items.size()));
         return n + ":" + String.join(",", items);
+    }
+
+    /** Two fives of N 30, each with a root or two put by two others: PARTS that are no stars, of like WEIGHT. */
+    private String twoOfThirty() {
+        boolean[] in = new boolean[30];
+        for (int i = 0; i < 2; i++) {
+            int from = random.nextInt(30);
+            int put = 1 + random.nextInt(2);
+            for (int j = 0; j < 5; j++) {
+                int root = from + 6 * j;
+                if (j < put) {
+                    in[(root + 5) % 30] = true;
+                    in[(root + 25) % 30] = true;
+                } else {
+                    in[root % 30] = true;
+                }
+            }
+        }
+        List<String> items = new ArrayList<>();
+        for (int e = 0; e < 30; e++) {
+            if (in[e]) items.add("" + e);
+        }
+        return "30:" + String.join(",", items);
     }
 
     private List<String[]> alikeScene() {

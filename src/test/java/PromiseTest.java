@@ -198,7 +198,25 @@ public final class PromiseTest {
         x.set(0, 1);
         x.set(2, 1);
         due(12, "parts(0)", x.parts(0), 0);
+        firstOfLike();
         dear();
+    }
+
+    /** Rows of N 30 with two PARTS of least WEIGHT, of which the one with the lesser last ROOT is not the first. */
+    private static void firstOfLike() {
+        NoughtSums x = row("30:0,1,2,6,12,13,18,19,25,29");
+        due(12, "parts(1)", x.parts(1), 6);
+        due(12, "parts(2)", x.parts(2), 2);
+        for (int e = 0; e < 30; e++) {
+            boolean in = e == 0 || e == 6 || e == 12 || e == 18 || e == 19 || e == 29;
+            due(13, "part(" + e + ")", x.part(e), in ? 1 : 0);
+        }
+        due(14, "take()", x.take(), 6);
+        stands(14, x, "30:1,2,13,25");
+        x = row("30:2,3,4,5,9,15,16,22,23,26");
+        due(14, "take()", x.take(), 7);
+        stands(14, x, "30:4,5,23");
+        due(15, "pieces()", row("30:2,3,4,5,9,15,16,22,23,26").pieces(), 1);
     }
 
     private static void dear() {
@@ -223,6 +241,11 @@ public final class PromiseTest {
         for (int e = 0; e < 30; e++) x.set(e, 9);
         due(11, "primitive()", x.primitive(), DEAR);
         due(10, "nought()", x.nought(), 1);
+        // 20000 already without ROOT 17.
+        x = row("30:0x9,1x9,15x9,16x9,2,17");
+        due(12, "parts(0)", x.parts(0), DEAR);
+        x = row("30:0x9,1x9,2x9,3x9,4,29");
+        due(12, "parts(0)", x.parts(0), DEAR);
         // 3 to the 6th times 7 times 4 is 20412, just above.
         x = row("30:0x2,1x2,2x2,3x2,4x2,5x2,6x6,7x3");
         due(12, "parts(0)", x.parts(0), DEAR);
@@ -548,6 +571,11 @@ public final class PromiseTest {
         for (int k = 0; k < 8; k++) due(35, "keep(1)", x.keep(1), k);
         due(35, "keep(1)", x.keep(1), FULL);
         due(35, "keep(0)", x.keep(0), 0);
+        due(37, "drop(1, 0)", x.drop(1, 0), 7);
+        x.base(3);
+        due(35, "keep(1)", x.keep(1), 7);
+        due(37, "drop(1, 7)", x.drop(1, 7), 7);
+        due(37, "held(1, 6)", x.held(1, 6), 2);
     }
 
     private static void pouring() {
