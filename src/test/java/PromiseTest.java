@@ -395,6 +395,11 @@ public final class PromiseTest {
         due(25, "layers(2, 1)", x.layers(2, 1), 1);
         x.add(0);
         due(25, "layers(3, 1)", x.layers(3, 1), 0);
+        // What an earlier change worked on must not be seen in a layer.
+        x = row("18:1,2x3");
+        x.turn(1);
+        tell(x, "18:0,9,4,10,16");
+        due(25, "layers(3, 0)", x.layers(3, 0), 1);
         x = row("5:0x2,1x2,2x2,3,4x2");
         due(25, "layers(5, 1)", x.layers(5, 1), 3);
         x.set(0, 1);

@@ -20,6 +20,7 @@ public final class WholeTest {
         for (int n = 2; n <= 12; n++) {
             lists(n);
             fillings(n);
+            behindAnother(n);
         }
         System.out.println(wrong == 0 ? asked + " answers are as the model's" : wrong + " answers are otherwise");
         if (wrong != 0) System.exit(1);
@@ -106,6 +107,23 @@ public final class WholeTest {
             due(n, "filled(" + set + ", 0)", x.filled(set, 0), Integer.bitCount(best[set]));
         }
         due(n, "filled", made(n).filled(size, 0), NoughtSums.BAD);
+    }
+
+    /** Tables that were made for another N must leave nothing behind. */
+    private static void behindAnother(int n) {
+        Model m = model(n);
+        for (int other = 2; other <= 12; other++) {
+            NoughtSums x = made(other);
+            x.filled(0, 0);
+            x.base(n);
+            for (int set = 0; set < 1 << n; set += 1 + (1 << n) / 40) {
+                due(n, "filled(" + set + ", 1) behind " + other, x.filled(set, 1), m.filled(set, 1));
+            }
+            for (int w = 1; w <= 12; w++) {
+                due(n, "listed(" + w + ", -1) behind " + other, x.listed(w, -1), m.listed(w, -1));
+                due(n, "listed(" + w + ", 0) behind " + other, x.listed(w, 0), m.listed(w, 0));
+            }
+        }
     }
 
     private static int better(int one, int other) {
