@@ -132,8 +132,9 @@ abstract class Edges {
         seeImaged(x, seen);
         seen.add((long) x.read());
         seeRow(x, seen);
-        seen.add((long) x.undo());
-        seeImaged(x, seen);
+        int imaged = x.undo();
+        seen.add((long) imaged);
+        if (imaged != STATE) seeImaged(x, seen);
         return seen;
     }
 
