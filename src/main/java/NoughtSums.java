@@ -935,9 +935,8 @@ public final class NoughtSums {
             }
         }
 
-        /** Apart from prepare(), as only walks need what is packed. */
-        void preparePacked(int base) {
-            prepare(base);
+        /** Behind prepare(), and apart from it, as only walks need what is packed. */
+        void preparePacked() {
             if (packedN != n) {
                 packedN = n;
                 makePacked();
@@ -1069,7 +1068,8 @@ public final class NoughtSums {
         }
 
         void begin(int n, int[] counts) {
-            division.preparePacked(n);
+            division.prepare(n);
+            division.preparePacked();
             size = 0;
             total = 0;
             Arrays.fill(taken, 0);
