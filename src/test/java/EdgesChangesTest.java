@@ -351,12 +351,30 @@ public final class EdgesChangesTest extends Edges {
     }
 
     private static void p22OneCountIsOtherwise() {
-        NoughtSums x = row("6:0,5x9");
+        NoughtSums x = row("6:0,1,2,3,4,5");
+        x.film(0);
+        for (int i = 0; i < 6; i++) {
+            x.put(0, i, 2);
+            due("alike(0)", x.alike(0), NOT);
+            x.put(0, i, 1);
+        }
+        due("alike(0)", x.alike(0), 0);
+        x = row("6:0,5x9");
         x.film(0);
         x.set(5, 8);
         due("alike(0)", x.alike(0), NOT);
         x.set(5, 9);
         due("alike(0)", x.alike(0), 0);
+    }
+
+    private static void p22TheFirstOrTheLastPlaceAloneTells() {
+        NoughtSums x = row("6:0,5x9");
+        x.film(0);
+        x.put(0, 0, 2);
+        due("alike(0)", x.alike(0), NOT);
+        x.put(0, 0, 1);
+        x.put(0, 5, 8);
+        due("alike(0)", x.alike(0), NOT);
     }
 
     /** A list that tells the row mirrored is not the row turned. */

@@ -256,6 +256,53 @@ public final class EdgesNoughtTest extends Edges {
         due("parts(2)", x.parts(2), 1);
     }
 
+    private static void p12OneRootAloneHasNone() {
+        for (int n = 2; n <= 30; n++) {
+            for (int e = 0; e < n; e++) due("parts(0)", row(n + ":" + e + "x9").parts(0), 0);
+        }
+    }
+
+    /** All of a prime, but one root is there twice and another not at all. */
+    private static void p12OneTwiceForAnother() {
+        for (int n : new int[] {2, 3, 11, 13}) {
+            for (int e = 0; e < n; e++) {
+                NoughtSums x = allOf(n, 1);
+                x.set(e, 2);
+                due("parts(0) of one more", x.parts(0), 1);
+                for (int other = 0; other < n; other++) {
+                    x.set(other, 0);
+                    due("parts(0) of one for another", x.parts(0), 0);
+                    x.set(other, other == e ? 2 : 1);
+                }
+            }
+        }
+    }
+
+    private static void p12TheGreatestDegrees() {
+        due("parts(0)", row("29:0x9,1x9,27x9,28x9").parts(0), 0);
+        due("parts(1)", row("29:0x9,28x9").parts(1), NOT);
+        due("parts(0)", row("23:0x9,1x9,21x9,22x9").parts(0), 0);
+        due("parts(0)", row("25:0x2,5x2,10x2,15x2,20x2,24").parts(0), 2);
+        due("parts(0)", row("25:4,9,14,19,24,23").parts(0), 1);
+        due("parts(0)", row("27:8,17,26x9,25").parts(0), 1);
+        due("parts(0)", row("28:13x9,27x8").parts(0), 8);
+    }
+
+    private static void p12AnotherNIsLookedAtAnew() {
+        NoughtSums x = row("29:0,2");
+        due("parts(0) of 29", x.parts(0), 0);
+        tell(x, "4:0,2");
+        due("parts(0) of 4", x.parts(0), 1);
+        tell(x, "6:0,2");
+        due("parts(0) of 6", x.parts(0), 0);
+        tell(x, "6:0,2,4");
+        due("parts(0) of 6", x.parts(0), 1);
+        tell(x, "12:0,2,4");
+        due("parts(0) of 12", x.parts(0), 0);
+        tell(x, "29:0,1,2,3,4,5,6,7,8,9,10,11");
+        due("parts(0) of 29", x.parts(0), 0);
+    }
+
     private static void p12AllOfTwelve() {
         NoughtSums x = allOf(12, 1);
         due("parts(0)", x.parts(0), 99);

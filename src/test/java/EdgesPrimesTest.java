@@ -174,6 +174,19 @@ public final class EdgesPrimesTest extends Edges {
         due("layers(3, 0)", x.layers(3, 0), 1);
     }
 
+    /** What another call worked on before must not be seen in a layer. */
+    private static void p25NothingIsLeftFromBefore() {
+        NoughtSums x = row("18:1,2x3");
+        x.turn(1);
+        tell(x, "18:0,9,4,10,16");
+        due("layers(3, 0)", x.layers(3, 0), 1);
+        tell(x, "30:1x9,29x9");
+        x.turn(1);
+        due("layers(5, 0)", x.layers(5, 0), 0);
+        tell(x, "9:0,3,6");
+        due("layers(3, 0)", x.layers(3, 0), 1);
+    }
+
     private static void p25AsNoughtTells() {
         for (int n = 2; n <= 30; n++) {
             for (int extra = 0; extra < 2; extra++) {
@@ -359,6 +372,21 @@ public final class EdgesPrimesTest extends Edges {
         }
     }
 
+    private static void p29AnotherNHasOthers() {
+        NoughtSums x = made(12);
+        due("listed(2, 0) of 12", x.listed(2, 0), 65);
+        x.base(6);
+        due("listed(2, 0) of 6", x.listed(2, 0), 9);
+        due("listed(3, -1) of 6", x.listed(3, -1), 1);
+        x.base(7);
+        due("listed(2, -1) of 7", x.listed(2, -1), 0);
+        due("listed(7, 0) of 7", x.listed(7, 0), 127);
+        x.base(13);
+        due("listed(7, 0) of 13", x.listed(7, 0), STATE);
+        x.base(12);
+        due("listed(7, -1) of 12", x.listed(7, -1), 0);
+    }
+
     // ---- 30 filled
 
     private static void p30NothingTold() {
@@ -427,6 +455,19 @@ public final class EdgesPrimesTest extends Edges {
         due("filled(17, 1)", x.filled(17, 1), 273);
         due("filled(1 + 16 + 64, 1)", x.filled(81, 1), 81 | 1 << 10);
         due("filled(1 + 2 + 16, 0)", x.filled(19, 0), 5);
+    }
+
+    private static void p30AnotherNIsFilledAnew() {
+        NoughtSums x = made(12);
+        due("filled(1, 1) of 12", x.filled(1, 1), 65);
+        x.base(6);
+        due("filled(1, 1) of 6", x.filled(1, 1), 9);
+        x.base(7);
+        due("filled(1, 1) of 7", x.filled(1, 1), 127);
+        x.base(2);
+        due("filled(1, 1) of 2", x.filled(1, 1), 3);
+        x.base(12);
+        due("filled(3, 1) of 12", x.filled(3, 1), 195);
     }
 
     private static void p30TheRowItselfDoesNotMatter() {
