@@ -303,6 +303,21 @@ public final class EdgesNoughtTest extends Edges {
         due("parts(0) of 29", x.parts(0), 0);
     }
 
+    private static void p12NoneBehindARowWithSome() {
+        NoughtSums x = row("6:0,1,3,4");
+        due("parts(2)", x.parts(2), 2);
+        x.clear();
+        due("parts(0) of nothing", x.parts(0), 0);
+        due("parts(1) of nothing", x.parts(1), NOT);
+        due("parts(2) of nothing", x.parts(2), 0);
+        tell(x, "6:0,1,3,4");
+        due("parts(2)", x.parts(2), 2);
+        tell(x, "6:0,1");
+        due("parts(0)", x.parts(0), 0);
+        due("parts(1)", x.parts(1), NOT);
+        due("parts(2)", x.parts(2), 0);
+    }
+
     private static void p12AllOfTwelve() {
         NoughtSums x = allOf(12, 1);
         due("parts(0)", x.parts(0), 99);
@@ -326,6 +341,14 @@ public final class EdgesNoughtTest extends Edges {
             int what = w;
             leaves(FIRST_DEAR, "parts(" + what + ")", x -> x.parts(what), DEAR);
         }
+    }
+
+    /** The product is just 20000 before the last root is looked at. */
+    private static void p12DearByTheLastRootAlone() {
+        due("parts(0)", row(LAST_CHEAP).parts(0), 99);
+        for (int e = 17; e < 30; e++) due("parts(0) with " + e, row(LAST_CHEAP + "," + e).parts(0), DEAR);
+        due("parts(0)", row("6:0x9,1x9,2x9,3x9,4,5").parts(0), DEAR);
+        due("parts(0)", row("6:0,1,2x9,3x9,4x9,5x9").parts(0), DEAR);
     }
 
     private static void p12NoneGoesBeforeDear() {
@@ -414,6 +437,23 @@ public final class EdgesNoughtTest extends Edges {
         due("parts(2)", x.parts(2), 2);
         due("part(6)", x.part(6), 1);
         due("part(1)", x.part(1), 0);
+    }
+
+    /** Two PARTS of WEIGHT 7 without ROOT 0: the first root that tells them apart goes before all later ones. */
+    private static void p13WithoutRootNoughtTheNextRootTells() {
+        firstOfTwo("30:4,5,6,7,11,17,18,24,25,28", 4, 5, 11, 17, 18, 24, 28);
+        firstOfTwo("30:1,4,5,11,12,18,22,23,24,25", 1, 5, 11, 12, 18, 24, 25);
+        firstOfTwo("30:5,6,7,8,12,18,19,25,26,29", 5, 6, 12, 18, 19, 25, 29);
+        firstOfTwo("30:3,6,7,13,14,20,24,25,26,27", 3, 7, 13, 14, 20, 26, 27);
+    }
+
+    private static void firstOfTwo(String text, int... roots) {
+        NoughtSums x = row(text);
+        due("parts(1) of " + text, x.parts(1), 7);
+        due("parts(2) of " + text, x.parts(2), 2);
+        int[] due = new int[30];
+        for (int e : roots) due[e] = 1;
+        for (int e = 0; e < 30; e++) due("part(" + e + ") of " + text, x.part(e), due[e]);
     }
 
     // ---- 14 take

@@ -107,6 +107,18 @@ public final class EdgesPrimesTest extends Edges {
         due("another layer", x.layer(p, other, at), 0);
     }
 
+    /** All roots of a LAYER come to multiples of p, be the row ever so full. */
+    private static void p24BesideTheMultiplesOfThePrimeIsNothing() {
+        for (int n : new int[] {2, 6, 9, 12, 25, 29, 30}) {
+            NoughtSums x = made(n);
+            for (int e = 0; e < n; e++) x.set(e, 9);
+            int p = x.prime(x.prime(-1) - 1);
+            for (int j : new int[] {0, 1, p - 1}) {
+                for (int e = 0; e < n; e++) due("layer of " + n + ", " + p, x.layer(p, j, e), e % p == 0 ? 9 : 0);
+            }
+        }
+    }
+
     private static void p24NothingHasEmptyLayers() {
         NoughtSums x = row("12:");
         for (int e = 0; e < 12; e++) {
