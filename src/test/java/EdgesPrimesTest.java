@@ -399,6 +399,20 @@ public final class EdgesPrimesTest extends Edges {
         due("listed(7, -1) of 12", x.listed(7, -1), 0);
     }
 
+    private static void p29NoRowOfAnNBeforeIsLeft() {
+        for (int before = 2; before <= 12; before++) {
+            for (int n = 2; n <= 12; n++) {
+                NoughtSums x = made(before);
+                x.listed(2, 0);
+                x.base(n);
+                for (int w = 1; w <= 12; w++) {
+                    boolean isPrime = n % w == 0 && (w == 2 || w == 3 || w == 5 || w == 7 || w == 11);
+                    due("listed(" + w + ", -1) of " + n + " behind " + before, x.listed(w, -1), isPrime ? 1 : 0);
+                }
+            }
+        }
+    }
+
     // ---- 30 filled
 
     private static void p30NothingTold() {
@@ -480,6 +494,28 @@ public final class EdgesPrimesTest extends Edges {
         due("filled(1, 1) of 2", x.filled(1, 1), 3);
         x.base(12);
         due("filled(3, 1) of 12", x.filled(3, 1), 195);
+    }
+
+    /** Nothing that an N before could be filled with is there for the N that is now. */
+    private static void p30NoRowOfAnNBeforeIsLeft() {
+        for (int before = 2; before <= 12; before++) {
+            for (int n = 2; n <= 12; n++) {
+                NoughtSums x = made(before);
+                x.filled(1, 1);
+                x.base(n);
+                NoughtSums fresh = made(n);
+                for (int a = 0; a < n; a++) {
+                    for (int b = a; b < n; b++) {
+                        int set = 1 << a | 1 << b;
+                        due("filled(" + set + ", 1) of " + n + " behind " + before, x.filled(set, 1), fresh.filled(set, 1));
+                    }
+                }
+            }
+        }
+        NoughtSums x = made(10);
+        due("filled(264, 1) of 10", x.filled(264, 1), 264);
+        x.base(9);
+        due("filled(264, 1) of 9", x.filled(264, 1), 1 + 8 + 64 + 4 + 32 + 256);
     }
 
     private static void p30TheRowItselfDoesNotMatter() {
